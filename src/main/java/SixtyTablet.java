@@ -280,8 +280,8 @@ public final class SixtyTablet {
             return UNKNOWN;
         }
         int found = 0;
-        search.begin();
-        for (int step = 0; step < Search.MOST_STEPS && search.nextReading(clay); step++) {
+        search.begin(clay);
+        for (int step = 0; step < Search.MOST_STEPS && search.nextReading(); step++) {
             if (found == i) {
                 return search.code();
             }
@@ -324,9 +324,9 @@ public final class SixtyTablet {
             return UNKNOWN;
         }
         int found = NONE;
-        search.begin();
-        for (int step = 0; step < Search.MOST_STEPS && search.nextPlace(clay.rowCount()); step++) {
-            int stray = search.strayRow(clay);
+        search.begin(clay);
+        for (int step = 0; step < Search.MOST_STEPS && search.nextPlace(); step++) {
+            int stray = search.strayRow();
             if (stray == Search.ALL_AGREE) {
                 return NONE;
             }
@@ -965,26 +965,50 @@ public final class SixtyTablet {
         /** Above the places of a tablet of one row: 59 times 59, 29, 59, 40. */
         static final int MOST_STEPS = 4000;
 
+        /** The cells that are not broken, by rows: only they can disagree, and there are thousands of places. */
+        private final int[] heldRows;
+        private final int[] heldColumns;
+        private final int[] heldSixties;
         private final int[] certain;
+        private int heldCount;
+        private int rows;
         private int kind;
         private int n;
         private int first;
 
         Search() {
+            heldRows = new int[Tablet.CELLS];
+            heldColumns = new int[Tablet.CELLS];
+            heldSixties = new int[Tablet.CELLS];
             certain = new int[Tablet.CELLS];
+            heldCount = 0;
+            rows = 1;
             kind = Table.TIMES;
             n = 1;
             first = -1;
         }
 
-        void begin() {
+        /** Stands ahead of the first place for a tablet. */
+        void begin(Tablet clay) {
             kind = Table.TIMES;
             n = 1;
             first = -1;
+            rows = clay.rowCount();
+            heldCount = 0;
+            for (int c = 0; c < rows * Tablet.COLUMNS && c < Tablet.CELLS; c++) {
+                int row = c / Tablet.COLUMNS;
+                int column = c % Tablet.COLUMNS;
+                if (clay.held(row, column) != 0 && heldCount >= 0 && heldCount < Tablet.CELLS) {
+                    heldRows[heldCount] = row;
+                    heldColumns[heldCount] = column;
+                    heldSixties[heldCount] = clay.heldSixty(row, column);
+                    heldCount++;
+                }
+            }
         }
 
-        /** Goes on to the next place for so many rows; false if there is none. */
-        boolean nextPlace(int rows) {
+        /** Goes on to the next place; false if there is none. */
+        boolean nextPlace() {
             first++;
             if (first + rows <= Table.rowsOf(kind)) {
                 return true;
@@ -999,9 +1023,9 @@ public final class SixtyTablet {
             return kind < Table.KINDS;
         }
 
-        boolean nextReading(Tablet clay) {
-            for (int step = 0; step < MOST_STEPS && nextPlace(clay.rowCount()); step++) {
-                if (agrees(clay)) {
+        boolean nextReading() {
+            for (int step = 0; step < MOST_STEPS && nextPlace(); step++) {
+                if (strayRow() == ALL_AGREE) {
                     return true;
                 }
             }
@@ -1013,10 +1037,11 @@ public final class SixtyTablet {
         }
 
         /** The only row that does not agree here, or ALL_AGREE, or MANY_STRAY. */
-        int strayRow(Tablet clay) {
+        int strayRow() {
             int stray = ALL_AGREE;
-            for (int row = 0; row < clay.rowCount(); row++) {
-                if (!rowAgrees(clay, row)) {
+            for (int h = 0; h < heldCount && h < Tablet.CELLS; h++) {
+                int row = heldRows[h];
+                if (row != stray && heldSixties[h] != sixtyHere(row, heldColumns[h])) {
                     if (stray != ALL_AGREE) {
                         return MANY_STRAY;
                     }
@@ -1026,42 +1051,22 @@ public final class SixtyTablet {
             return stray;
         }
 
-        private boolean agrees(Tablet clay) {
-            for (int row = 0; row < clay.rowCount(); row++) {
-                if (!rowAgrees(clay, row)) {
-                    return false;
-                }
-            }
-            return true;
-        }
-
-        private boolean rowAgrees(Tablet clay, int row) {
-            for (int column = 0; column < Tablet.COLUMNS; column++) {
-                int held = clay.heldSixty(row, column);
-                if (held != 0 && held != sixtyHere(row, column)) {
-                    return false;
-                }
-            }
-            return true;
-        }
-
         private int sixtyHere(int row, int column) {
             return (int) Sixties.strip(Table.number(kind, n, first + row, column));
         }
 
-        /** Finds what all readings agree in, for sureIn. */
+        /** Finds what all readings of a tablet agree in, for sureIn. */
         void gatherSure(Tablet clay) {
             for (int c = 0; c < Tablet.CELLS; c++) {
                 certain[c] = 0;
             }
-            begin();
-            boolean open = nextReading(clay);
+            begin(clay);
+            boolean open = nextReading();
             if (open) {
-                takeAll(clay);
+                takeAll();
             }
-            // A cell that is not broken is as all readings have it: only broken ones can become unsure.
             for (int step = 0; step < MOST_STEPS && open; step++) {
-                open = nextReading(clay) && keepAgreed(clay);
+                open = nextReading() && keepAgreed();
             }
         }
 
@@ -1070,27 +1075,26 @@ public final class SixtyTablet {
             return c >= 0 && c < Tablet.CELLS ? certain[c] : 0;
         }
 
-        private void takeAll(Tablet clay) {
-            for (int c = 0; c < clay.rowCount() * Tablet.COLUMNS && c < Tablet.CELLS; c++) {
+        private void takeAll() {
+            for (int c = 0; c < rows * Tablet.COLUMNS && c < Tablet.CELLS; c++) {
                 certain[c] = sixtyHere(c / Tablet.COLUMNS, c % Tablet.COLUMNS);
             }
         }
 
         /** Keeps what this reading agrees in, too; false if no broken cell is sure any more. */
-        private boolean keepAgreed(Tablet clay) {
-            boolean any = false;
-            for (int c = 0; c < clay.rowCount() * Tablet.COLUMNS && c < Tablet.CELLS; c++) {
-                int row = c / Tablet.COLUMNS;
-                int column = c % Tablet.COLUMNS;
-                if (certain[c] != 0 && clay.heldSixty(row, column) == 0) {
-                    if (certain[c] == sixtyHere(row, column)) {
-                        any = true;
+        private boolean keepAgreed() {
+            int kept = 0;
+            for (int c = 0; c < rows * Tablet.COLUMNS && c < Tablet.CELLS; c++) {
+                if (certain[c] != 0) {
+                    if (certain[c] == sixtyHere(c / Tablet.COLUMNS, c % Tablet.COLUMNS)) {
+                        kept++;
                     } else {
                         certain[c] = 0;
                     }
                 }
             }
-            return any;
+            // All readings agree in the cells that are not broken: those are always kept.
+            return kept > heldCount;
         }
     }
 }

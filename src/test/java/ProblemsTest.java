@@ -35,6 +35,9 @@ public final class ProblemsTest {
         both(x, 1, 17 * 60, 59049, no, no);
         both(x, 1, 16 * 60, 59049, 163840000000000L, 0);
         both(x, 1, 1, 177147, no, no);
+        // 2 to the 16 turned over is 15 to the 8: times 2 to the 16 just 60 to the 8.
+        both(x, 1, 65536, 65536, no, no);
+        both(x, 1, 65535, 65536, 167959037109375L, 0);
         both(x, 2, 1, 1, 1, 0);
         both(x, 2, MILLION, MILLION, 1000, 0);
         both(x, 2, 999999, 1, no, no);
