@@ -53,6 +53,10 @@ final class Check {
         }
     }
 
+    int callsSoFar() {
+        return calls;
+    }
+
     int wrongSoFar() {
         return wrong;
     }

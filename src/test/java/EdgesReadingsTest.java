@@ -13,6 +13,7 @@ public final class EdgesReadingsTest {
         readingsInOrder();
         readingBehindTheLast();
         sureWithoutReadings();
+        sureOfEachTabletByItself();
         sureInOneReading();
         sureInReadingsOfTwoKinds();
         notSureIfOneDiffers();
@@ -98,6 +99,7 @@ public final class EdgesReadingsTest {
         CHECK.due("the list, ahead", holding(0, 0, 0, 2, 30, 1, 3, 20, 1).reading(0, -1), 0);
         CHECK.due("squares, behind", holding(58, 58, 0, 59, 59, 0, 0, 0, 0).reading(0, -1), 0);
         CHECK.due("times, behind", holding(7, 59, 413, 0, 0, 0).reading(0, -1), 0);
+        CHECK.due("times 1, ahead", holding(1, 0, 0, 1, 1, 1).reading(0, -1), 0);
         CHECK.due("times, ahead", holding(0, 0, 0, 7, 1, 7, 7, 2, 14).reading(0, -1), 0);
         CHECK.due("a row left out", holding(7, 5, 35, 7, 7, 49).reading(0, -1), 0);
         CHECK.due("not from the last to the first", holding(7, 6, 42, 7, 5, 35).reading(0, -1), 0);
@@ -149,6 +151,24 @@ public final class EdgesReadingsTest {
         for (int c = 0; c < 6; c++) {
             CHECK.due("cell " + c, x.sure(0, c / 3, c % 3), 0);
         }
+    }
+
+    /** What was SURE in one TABLET is not so in another one that has no READINGS, nor in the same one later. */
+    private static void sureOfEachTabletByItself() {
+        SixtyTablet x = holding(7, 5, 35, 0, 0, 0);
+        CHECK.due("sure in tablet 0", x.sure(0, 1, 2), 42);
+        x.tablet(1, 2);
+        x.press(1, 0, 0, 77);
+        for (int c = 0; c < 6; c++) {
+            CHECK.due("cell " + c + " of tablet 0", x.sure(0, c / 3, c % 3) > 0 ? 1 : 0, 1);
+            CHECK.due("cell " + c + " of tablet 1", x.sure(1, c / 3, c % 3), 0);
+        }
+        CHECK.due("fill of tablet 1", x.fill(1), 0);
+        x.press(0, 0, 2, 36);
+        for (int c = 0; c < 6; c++) {
+            CHECK.due("cell " + c + " of tablet 0 then", x.sure(0, c / 3, c % 3), 0);
+        }
+        CHECK.due("fill of tablet 0 then", x.fill(0), 0);
     }
 
     /** One READING: all is SURE, in the first and the last CELL, too. */
@@ -331,6 +351,8 @@ public final class EdgesReadingsTest {
         CHECK.due("the last two", holding(39, 1521, 59319, 77, 0, 0).odd(0), 1);
         CHECK.due("ahead of the cubes", holding(77, 0, 0, 1, 0, 1, 2, 4, 8).odd(0), NONE);
         CHECK.due("the first two", holding(77, 0, 0, 2, 4, 8).odd(0), 0);
+        // 1 1 1 is the first row of each table that has it: nothing is ahead of it, so row 1 is the wrong one.
+        CHECK.due("ahead of times 1", holding(1, 0, 0, 1, 1, 1).odd(0), 1);
     }
 
     /** "from p above q (p 2 to 12)": the first, the last, and p 13, which is none. */
@@ -410,6 +432,9 @@ public final class EdgesReadingsTest {
         CHECK.due("row 7", x.triple(1, 7, 0), 302);
         CHECK.due("row 1", x.triple(1, 1, -1), 31);
         CHECK.dueFor("row", row -> x.triple(1, row, -1), UNKNOWN, 8, -1, 9, MIN, MAX);
+        x.tablet(1, 8);
+        CHECK.dueFor("a row of a new tablet", row -> x.triple(1, row, -1), 31, 0, 1, 7);
+        CHECK.due("readings of a new tablet", x.reading(1, -1), readingsOfBroken(8));
         CHECK.dueFor("row, and i", row -> x.triple(1, row, 99), UNKNOWN, 8, -1, MIN, MAX);
     }
 }

@@ -424,5 +424,15 @@ public final class EdgesTabletsTest {
         x.copy(0, 2, 0, 0, 1);
         CHECK.due("join behind a copy", x.join(0, 1, 1), 8);
         CHECK.due("all but the copied row broken", x.told(6), 21);
+        // What an older one held can't disagree, in neither of the two.
+        x.copy(0, 2, 0, 0, 8);
+        x.tablet(0, 8);
+        x.copy(2, 3, 0, 20, 8);
+        CHECK.due("onto a new one", x.join(0, 2, 0), 8);
+        CHECK.due("it holds the second one's", x.cell(0, 7, 2), 28 * 28 * 28);
+        x.tablet(2, 8);
+        x.copy(0, 2, 0, 0, 8);
+        CHECK.due("of a new one", x.join(0, 2, 0), 8);
+        CHECK.due("it holds the first one's", x.cell(0, 7, 2), 64);
     }
 }
