@@ -5,6 +5,7 @@
  */
 public final class SixtyTablet {
     public static final int NONE = -6, UNKNOWN = -1, OUTSIDE = -2, STATE = -3, FULL = -4, NO = -5;
+    /** What is told of numbers that are refused: LOST and the refusal. */
     public static final long LOST = -1000000000000000000L;
 
     private static final int HOW_MANY = -1;
@@ -624,6 +625,11 @@ public final class SixtyTablet {
         private static final int[] LIST = {
             2, 3, 4, 5, 6, 8, 9, 10, 12, 15, 16, 18, 20, 24, 25, 27, 30, 32, 36, 40, 45, 48, 50, 54, 64, 72, 75, 80, 81
         };
+        /** What they are turned over: written out, as a search looks at them thousands of times, from calls deep. */
+        private static final int[] LIST_OVER = {
+            30, 20, 15, 12, 10, 450, 400, 6, 5, 4, 225, 200, 3, 150, 144, 8000, 2, 6750, 100, 90, 80, 75, 72, 4000,
+            3375, 50, 48, 45, 160000
+        };
         /** Each factor is 2 or more, and a number has less than 48 bits. */
         static final int MOST_FACTORS = 48;
         private static final int MOST_POWER = 63;
@@ -634,6 +640,10 @@ public final class SixtyTablet {
 
         static int listed(int row) {
             return row >= 0 && row < LIST.length ? LIST[row] : 1;
+        }
+
+        static int listedOver(int row) {
+            return row >= 0 && row < LIST_OVER.length ? LIST_OVER[row] : 1;
         }
 
         static boolean isEven(long v) {
@@ -850,17 +860,12 @@ public final class SixtyTablet {
                 case TIMES:
                     return column == 0 ? n : column == 1 ? k : n * k;
                 case LIST:
-                    return column == 2 ? 1 : listColumn(row, column);
+                    return column == 0 ? Turning.listed(row) : column == 1 ? Turning.listedOver(row) : 1;
                 case SQUARES:
                     return column < 2 ? k : k * k;
                 default:
                     return column == 0 ? k : column == 1 ? k * k : k * k * k;
             }
-        }
-
-        private static int listColumn(int row, int column) {
-            int member = Turning.listed(row);
-            return column == 0 ? member : (int) Turning.turnOver(member);
         }
     }
 

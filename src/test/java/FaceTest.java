@@ -29,6 +29,7 @@ public final class FaceTest {
         constants();
         members();
         text();
+        interfaceSays();
         newObject();
         CHECK.end();
     }
@@ -69,12 +70,17 @@ public final class FaceTest {
         CHECK.due("names that inner methods share with the face " + privateNames, privateNames.size(), 0);
         int fields = 0;
         for (Field f : SixtyTablet.class.getDeclaredFields()) {
-            fields += Modifier.isPrivate(f.getModifiers()) ? 0 : 1;
+            if (!Modifier.isPrivate(f.getModifiers())) {
+                fields++;
+                CHECK.due(f + " is a public constant", f.getModifiers(), Modifier.PUBLIC | Modifier.STATIC | Modifier.FINAL);
+                CHECK.due(f + " is an int, but LOST", f.getType() == (f.getName().equals("LOST") ? long.class : int.class) ? 1 : 0, 1);
+            }
         }
         CHECK.due("constants seen from outside", fields, 7);
         Constructor<?>[] constructors = SixtyTablet.class.getDeclaredConstructors();
         CHECK.due("constructors", constructors.length, 1);
         CHECK.due("its parameters", constructors[0].getParameterCount(), 0);
+        CHECK.due("it is public", constructors[0].getModifiers(), Modifier.PUBLIC);
         CHECK.due("the class is public and final", SixtyTablet.class.getModifiers(), Modifier.PUBLIC | Modifier.FINAL);
     }
 
@@ -84,7 +90,7 @@ public final class FaceTest {
         for (Class<?> type : m.getParameterTypes()) {
             text.append(text.charAt(text.length() - 1) == '(' ? "" : ",").append(type.getName());
         }
-        CHECK.due(m.getName() + " is public", Modifier.isPublic(m.getModifiers()) ? 1 : 0, 1);
+        CHECK.due(m.getName() + " is public, and of an object", m.getModifiers(), Modifier.PUBLIC);
         return text.append(')').toString();
     }
 
@@ -95,6 +101,25 @@ public final class FaceTest {
         }
     }
 
+    /** "Ahead of the calls .. the interface says: ---- 1 sixties.", and so on for the five parts. */
+    private static void interfaceSays() throws IOException {
+        String source = Files.readString(Path.of("src/main/java/SixtyTablet.java"));
+        String[] said = {"1 sixties", "2 turned over", "3 workings", "4 tablets", "5 problems, units"};
+        int[] firstOfPart = {0, 5, 10, 15, 25, FACE.length};
+        for (int part = 0; part < said.length; part++) {
+            int head = source.indexOf("    // ---- " + said[part] + "\n");
+            CHECK.due("the interface says " + said[part], head > 0 ? 1 : 0, 1);
+            int ahead = head;
+            for (int call = firstOfPart[part]; call < firstOfPart[part + 1]; call++) {
+                int at = source.indexOf("    public " + FACE[call].substring(0, FACE[call].indexOf('(') + 1));
+                CHECK.due(FACE[call] + " stands in its order", at > ahead ? 1 : 0, 1);
+                CHECK.due("what is said last ahead of " + FACE[call], source.lastIndexOf("// ---- ", at), head + 4);
+                ahead = at;
+            }
+        }
+    }
+
+    /** "No WORKING, no UNITS; TABLETS of one ROW, all BROKEN." */
     private static void newObject() {
         SixtyTablet x = new SixtyTablet();
         CHECK.due("told(0)", x.told(0), 0);
